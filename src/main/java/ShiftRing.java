@@ -917,20 +917,20 @@ public final class ShiftRing {
         }
 
         int overlapOf(int place, int other) {
-            for (int shared = letters; shared > 0; shared--) {
-                if (lastLetters(place, shared) == firstLetters(other, shared)) {
-                    return shared;
-                }
+            int missing = 0;
+            while (missing < letters && withoutFirst(place, missing) != withoutLast(other, missing)) {
+                missing++;
             }
-            return 0;
+            return letters - missing;
         }
 
-        int lastLetters(int place, int count) {
-            return place & ((1 << (bits * count)) - 1);
+        /** What is left of a place as a number, its first letters taken away. */
+        int withoutFirst(int place, int count) {
+            return place & (LAST_PLACE >> (bits * count));
         }
 
-        int firstLetters(int place, int count) {
-            return place >> (bits * (letters - count));
+        int withoutLast(int place, int count) {
+            return place >> (bits * count);
         }
 
         void copyFrom(Ring other) {
@@ -974,7 +974,6 @@ public final class ShiftRing {
         /** Goes all the way; answers the node with which it ends, CUT or LOST. */
         int travel(Ring where, Node from, int wanted, boolean fromBest) {
             setOut(where, from, wanted, fromBest);
-            spared = ring.letters - left;
             for (int k = 0; k <= MOST_STEPS && end == UNDER_WAY; k++) {
                 end = endHere();
                 if (end == UNDER_WAY) {
@@ -994,16 +993,15 @@ public final class ShiftRing {
             key = wanted;
             best = fromBest;
             end = UNDER_WAY;
-            right = false;
             steps = 0;
             hops = 0;
             shifts = 0;
             walks = 0;
             bridges = 0;
             time = 0;
-            spared = 0;
             cutBy.empty();
             startHere();
+            spared = ring.letters - left;
         }
 
         /**
@@ -1013,13 +1011,13 @@ public final class ShiftRing {
         private void startHere() {
             imaginary = at.place;
             left = ring.letters;
-            int most = best && at.next != NONE ? ring.letters : 0;
-            for (int shared = most; shared > 0; shared--) {
-                int wanted = ring.firstLetters(key, shared);
-                int offset = ring.lastLetters(wanted - at.place, shared);
+            int tries = best && at.next != NONE ? ring.letters : 0;
+            for (int missing = 0; missing < tries; missing++) {
+                int wanted = ring.withoutLast(key, missing);
+                int offset = ring.withoutFirst(wanted - at.place, missing);
                 if (offset < at.arc) {
                     imaginary = (at.place + offset) & LAST_PLACE;
-                    left = ring.letters - shared;
+                    left = missing;
                     return;
                 }
             }
@@ -1341,7 +1339,6 @@ public final class ShiftRing {
         private final int[] links = new int[MOST_NODES];
         private final long[] open = new long[STATIONS];
         private final int[] cameFrom = new int[STATIONS];
-        private final int[] queue = new int[STATIONS];
 
         int fewestLinks(Ring ring, int first, int second) {
             readLinks(ring);
@@ -1394,7 +1391,7 @@ public final class ShiftRing {
         /** As many as can be found by opening one way more, which may undo parts of others. */
         int waysApart(Ring ring, int first, int second) {
             readLinks(ring);
-            openStations(first, second);
+            openStations();
             int found = 0;
             while (found < MOST_NODES && findWay(MOST_NODES + first, second)) {
                 turnWay(MOST_NODES + first, second);
@@ -1403,9 +1400,10 @@ public final class ShiftRing {
             return found;
         }
 
-        private void openStations(int first, int second) {
+        /** One way through each node: from its entry to its exit; from there to all its links. */
+        private void openStations() {
             for (int n = 0; n < links.length && MOST_NODES + n < open.length; n++) {
-                open[n] = n == first || n == second ? 0L : stationBit(MOST_NODES + n);
+                open[n] = stationBit(MOST_NODES + n);
                 open[MOST_NODES + n] = links[n];
             }
         }
@@ -1416,39 +1414,48 @@ public final class ShiftRing {
 
         private boolean findWay(int source, int target) {
             long seen = stationBit(source);
-            int waiting = 0;
-            queue[waiting++] = source;
-            for (int k = 0; k < waiting && k < queue.length; k++) {
-                int station = queue[k];
-                long ahead = openFrom(station) & ~seen;
-                for (int to = 0; to < STATIONS && ahead != 0L; to++) {
-                    if ((ahead & stationBit(to)) != 0L && waiting < queue.length) {
-                        cameFrom[to] = station;
-                        queue[waiting++] = to;
-                    }
-                }
-                seen |= ahead;
+            long edge = seen;
+            for (int k = 0; k < STATIONS && edge != 0L && (seen & stationBit(target)) == 0L; k++) {
+                edge = openFromEdge(edge, seen);
+                seen |= edge;
             }
             return (seen & stationBit(target)) != 0L;
         }
 
-        private long openFrom(int station) {
-            return station >= 0 && station < open.length ? open[station] : 0L;
+        /** The stations one step beyond the edge, and for each of them whence one comes to it. */
+        private long openFromEdge(long edge, long seen) {
+            long beyond = 0L;
+            for (int from = 0; from < open.length; from++) {
+                if ((edge & stationBit(from)) != 0L) {
+                    long ahead = open[from] & ~seen & ~beyond;
+                    rememberOrigin(ahead, from);
+                    beyond |= ahead;
+                }
+            }
+            return beyond;
+        }
+
+        private void rememberOrigin(long ahead, int from) {
+            for (int to = 0; to < cameFrom.length; to++) {
+                if ((ahead & stationBit(to)) != 0L) {
+                    cameFrom[to] = from;
+                }
+            }
         }
 
         private void turnWay(int source, int target) {
             int to = target;
             for (int k = 0; k < STATIONS && to != source; k++) {
-                if (to < 0 || to >= STATIONS) {
-                    return;
-                }
-                int from = cameFrom[to];
-                if (from < 0 || from >= STATIONS) {
-                    return;
-                }
+                int from = to >= 0 && to < cameFrom.length ? cameFrom[to] : source;
+                turnLink(from, to);
+                to = from;
+            }
+        }
+
+        private void turnLink(int from, int to) {
+            if (from >= 0 && from < open.length && to >= 0 && to < open.length) {
                 open[from] &= ~stationBit(to);
                 open[to] |= stationBit(from);
-                to = from;
             }
         }
     }

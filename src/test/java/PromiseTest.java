@@ -982,8 +982,11 @@ public final class PromiseTest {
         }
         x.copies(3);
         x.down(1);
+        x.lookup(0, 0, true);
         refused(STATE, () -> x.put(1, 5, 5));
         refused(ARGUMENT, () -> x.put(1, 5, 1000));
+        due(6, () -> x.latest(6));
+        due(1, () -> x.latest(4));
         // its successors are 1, 2, 3: those that are up
         due(3, () -> x.put(3, 3500, 1));
         due(13, () -> x.about(3500, 1));
