@@ -679,7 +679,7 @@ public final class ShiftRing {
             setBase(4);
         }
 
-        private void setBase(int newBase) {
+        void setBase(int newBase) {
             base = newBase;
             bits = bitsOf(newBase);
             letters = bits > 0 ? PLACE_BITS / bits : 0;

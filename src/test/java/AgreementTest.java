@@ -18,7 +18,8 @@ public final class AgreementTest {
 
     private static int wrong = 0;
     private static long calls = 0;
-    private static final long[] seen = new long[6];
+    /** How the latest lookups ended when they were asked of: 0 well, 2 cut, 3 lost. */
+    private static final long[] seen = new long[4];
 
     private interface Call {
         int answer();
@@ -95,7 +96,6 @@ public final class AgreementTest {
 
     private void change() {
         int a = node();
-        int b;
         switch (random.nextInt(still ? 24 : 13)) {
             case 0: case 1: case 2: {
                 if (plain.nodes.size() < mostNodes || rarely()) {
