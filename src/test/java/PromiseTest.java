@@ -1,109 +1,18 @@
-import java.util.NoSuchElementException;
-
 /** The promises one by one: what the document says of ordinary inputs, of edges, of wrong inputs. */
 public final class PromiseTest {
-    private static final Class<?> INDEX = IndexOutOfBoundsException.class;
-    private static final Class<?> ARGUMENT = IllegalArgumentException.class;
-    private static final Class<?> STATE = IllegalStateException.class;
-    private static final Class<?> WHAT = NoSuchElementException.class;
+    private static final Class<?> INDEX = Check.INDEX;
+    private static final Class<?> ARGUMENT = Check.ARGUMENT;
+    private static final Class<?> STATE = Check.STATE;
+    private static final Class<?> WHAT = Check.WHAT;
     private static final int[] NO_PLACES = {-1, 4096, Integer.MIN_VALUE, Integer.MAX_VALUE};
     private static final int[] NO_NODES = {-1, 9, 24, Integer.MIN_VALUE, Integer.MAX_VALUE};
 
-    private static int promise;
-    private static int wrong;
-    private static int checks;
-
-    private interface Call {
-        int answer();
+    private static void due(int want, Check.Call call) {
+        Check.due(want, call);
     }
 
-    private static void due(int want, Call call) {
-        checks++;
-        String got;
-        try {
-            int answer = call.answer();
-            if (answer == want) {
-                return;
-            }
-            got = "answered " + answer;
-        } catch (RuntimeException e) {
-            got = "threw " + e.getClass().getName();
-        }
-        fail(got + ", due is " + want);
-    }
-
-    private static void refused(Class<?> want, Call call) {
-        checks++;
-        String got;
-        try {
-            got = "answered " + call.answer();
-        } catch (RuntimeException e) {
-            if (e.getClass() == want) {
-                return;
-            }
-            got = "threw " + e.getClass().getName();
-        }
-        fail(got + ", due is " + want.getName());
-    }
-
-    private static void fail(String what) {
-        wrong++;
-        StackTraceElement[] stack = Thread.currentThread().getStackTrace();
-        System.out.println("promise " + promise + ", line " + stack[3].getLineNumber() + ": " + what);
-    }
-
-    private static ShiftRing ringAt(int... places) {
-        ShiftRing x = new ShiftRing();
-        for (int place : places) {
-            x.join(place);
-        }
-        x.mendAll();
-        return x;
-    }
-
-    private static ShiftRing two() {
-        return ringAt(0, 2048);
-    }
-
-    private static ShiftRing four() {
-        return ringAt(0, 1024, 2048, 3072);
-    }
-
-    private static ShiftRing full() {
-        ShiftRing x = new ShiftRing();
-        for (int n = 0; n < 24; n++) {
-            x.join((n * 1453 + 77) % 4096);
-        }
-        x.mendAll();
-        return x;
-    }
-
-    /** Four nodes with one down whose lookups go round and round: see lookup(0, 2176, false). */
-    private static ShiftRing losing() {
-        ShiftRing x = ringAt(2304, 512, 2048, 1792);
-        x.down(1);
-        return x;
-    }
-
-    /** The same for lookups from the best start: see lookup(1, 2688, true). */
-    private static ShiftRing losingBest() {
-        ShiftRing x = new ShiftRing();
-        x.degree(1);
-        for (int place : new int[] {3072, 3840, 2048, 2560, 768}) {
-            x.join(place);
-        }
-        x.mendAll();
-        x.down(0);
-        return x;
-    }
-
-    /** Only node 0 is up, and all its successors (1, 2, 3) are down. */
-    private static ShiftRing cut() {
-        ShiftRing x = four();
-        x.down(1);
-        x.down(2);
-        x.down(3);
-        return x;
+    private static void refused(Class<?> want, Check.Call call) {
+        Check.refused(want, call);
     }
 
     private static void p1() {
@@ -136,7 +45,7 @@ public final class PromiseTest {
         x.down(0);
         refused(STATE, () -> x.join(4095));
         due(2, () -> x.count(0));
-        ShiftRing f = full();
+        ShiftRing f = Rings.full();
         due(24, () -> f.count(0));
         refused(STATE, () -> f.join(5));
         refused(ARGUMENT, () -> f.join(4096));
@@ -146,7 +55,7 @@ public final class PromiseTest {
     }
 
     private static void p3() {
-        ShiftRing x = four();
+        ShiftRing x = Rings.four();
         due(3, () -> x.down(1));
         due(0, () -> x.node(1, 1));
         due(3, () -> x.node(0, 3));
@@ -160,7 +69,7 @@ public final class PromiseTest {
     }
 
     private static void p4() {
-        ShiftRing x = four();
+        ShiftRing x = Rings.four();
         x.down(1);
         x.down(2);
         x.turn(16);
@@ -217,7 +126,7 @@ public final class PromiseTest {
     }
 
     private static void p7() {
-        ShiftRing x = four();
+        ShiftRing x = Rings.four();
         due(4, () -> x.turn(2));
         due(2, () -> x.turn(8));
         due(8, () -> x.turn(16));
@@ -231,7 +140,7 @@ public final class PromiseTest {
     }
 
     private static void p8() {
-        ShiftRing x = four();
+        ShiftRing x = Rings.four();
         due(4, () -> x.degree(1));
         due(1, () -> x.degree(8));
         due(8, () -> x.count(3));
@@ -240,7 +149,7 @@ public final class PromiseTest {
             refused(ARGUMENT, () -> x.degree(d));
         }
         due(8, () -> x.count(3));
-        ShiftRing f = full();
+        ShiftRing f = Rings.full();
         f.degree(8);
         f.mend(0);
         due(8, () -> f.node(0, 4));
@@ -248,7 +157,7 @@ public final class PromiseTest {
     }
 
     private static void p9() {
-        ShiftRing x = two();
+        ShiftRing x = Rings.two();
         due(0, () -> x.spot(0, 99));
         due(99, () -> x.spot(0, 7));
         for (int s : new int[] {-1, 100, Integer.MIN_VALUE, Integer.MAX_VALUE}) {
@@ -263,7 +172,7 @@ public final class PromiseTest {
     }
 
     private static void p10() {
-        ShiftRing x = four();
+        ShiftRing x = Rings.four();
         due(0, () -> x.lookup(0, 0, false));
         due(1, () -> x.lookup(0, 1, false));
         due(1, () -> x.lookup(0, 1024, true));
@@ -279,12 +188,12 @@ public final class PromiseTest {
         x.down(1);
         refused(STATE, () -> x.lookup(1, 0, true));
         refused(ARGUMENT, () -> x.lookup(1, 4096, true));
-        due(-2, () -> cut().lookup(0, 0, true));
-        due(-2, () -> cut().lookup(0, 5, false));
-        due(-3, () -> losing().lookup(0, 2176, false));
-        due(-3, () -> losing().lookup(3, 2176, false));
-        due(0, () -> losing().lookup(2, 2176, false));
-        due(-3, () -> losingBest().lookup(1, 2688, true));
+        due(-2, () -> Rings.cut().lookup(0, 0, true));
+        due(-2, () -> Rings.cut().lookup(0, 5, false));
+        due(-3, () -> Rings.losing().lookup(0, 2176, false));
+        due(-3, () -> Rings.losing().lookup(3, 2176, false));
+        due(0, () -> Rings.losing().lookup(2, 2176, false));
+        due(-3, () -> Rings.losingBest().lookup(1, 2688, true));
     }
 
     private static void p11() {
@@ -293,7 +202,7 @@ public final class PromiseTest {
             int what = w;
             due(w == 7 ? -1 : 0, () -> n.latest(what));
         }
-        ShiftRing x = four();
+        ShiftRing x = Rings.four();
         x.spot(1, 30);
         x.lookup(0, 2000, false);
         latestIs(x, 1, 6, 0, 0, 1, 6, 0, 1, 31);
@@ -313,10 +222,10 @@ public final class PromiseTest {
         latestIs(x, 1, 1, 0, 0, 1, 1, 5, 0, 1);
         x.put(0, 100, 1);
         latestIs(x, 0, 0, 0, 0, 1, 0, 6, 0, 0);
-        ShiftRing l = losing();
+        ShiftRing l = Rings.losing();
         l.lookup(0, 2176, false);
         latestIs(l, 80, 160, 0, 40, 0, 200, 0, 0, 80);
-        ShiftRing c = cut();
+        ShiftRing c = Rings.cut();
         c.lookup(0, 5, true);
         latestIs(c, 0, 0, 0, 0, 0, 0, 0, 0, 0);
         for (int w : new int[] {-1, 9, Integer.MIN_VALUE, Integer.MAX_VALUE}) {
@@ -340,7 +249,7 @@ public final class PromiseTest {
     }
 
     private static void p12() {
-        ShiftRing x = four();
+        ShiftRing x = Rings.four();
         stepIs(x, 0, -1, -1, -1, -1);
         x.lookup(0, 2000, false);
         stepIs(x, 0, 0, 0, 6, 0);
@@ -351,7 +260,7 @@ public final class PromiseTest {
         stepIs(x, -1, -1, -1, -1, -1);
         stepIs(x, Integer.MAX_VALUE, -1, -1, -1, -1);
         stepIs(x, Integer.MIN_VALUE, -1, -1, -1, -1);
-        ShiftRing l = losing();
+        ShiftRing l = Rings.losing();
         l.lookup(0, 2176, false);
         stepIs(l, 0, 0, 2304, 6, 2);
         stepIs(l, 1, 3, 1792, 6, 0);
@@ -376,11 +285,11 @@ public final class PromiseTest {
     }
 
     private static void p13() {
-        ShiftRing x = four();
+        ShiftRing x = Rings.four();
         due(-1, () -> x.why(0));
         x.lookup(0, 2000, true);
         due(-1, () -> x.why(0));
-        ShiftRing c = cut();
+        ShiftRing c = Rings.cut();
         c.lookup(0, 5, true);
         int[] all = {0, 3, 2, 1, -1};
         for (int k = 0; k < all.length; k++) {
@@ -395,13 +304,13 @@ public final class PromiseTest {
         c.lookup(0, 5, true);
         due(-1, () -> c.why(0));
         due(-1, () -> c.why(1));
-        ShiftRing l = losing();
+        ShiftRing l = Rings.losing();
         l.lookup(0, 2176, false);
         due(-1, () -> l.why(0));
     }
 
     private static void p14() {
-        ShiftRing x = four();
+        ShiftRing x = Rings.four();
         due(0, () -> x.owner(0));
         due(1, () -> x.owner(1));
         due(1, () -> x.owner(1024));
@@ -416,7 +325,7 @@ public final class PromiseTest {
     }
 
     private static void p15() {
-        ShiftRing x = four();
+        ShiftRing x = Rings.four();
         nodeIs(x, 1, 1024, 1, 4, 3, 4, 13, 13, 0, 2, 1024, 0, 1024);
         x.turn(2);
         x.degree(1);
@@ -428,11 +337,11 @@ public final class PromiseTest {
         due(2, () -> x.node(0, 8));
         due(2048, () -> x.node(0, 11));
         due(2048, () -> x.node(2, 9));
-        ShiftRing c = cut();
+        ShiftRing c = Rings.cut();
         nodeIs(c, 0, 0, 1, 4, 3, 4, 14, 14, 6, -1, 4096, 0, -1);
-        ShiftRing one = ringAt(7);
+        ShiftRing one = Rings.at(7);
         nodeIs(one, 0, 7, 1, 4, 0, 1, 0, 0, 0, 0, 4096, 0, 4096);
-        ShiftRing t = two();
+        ShiftRing t = Rings.two();
         due(64, () -> t.node(0, 10));
         due(64, () -> t.node(1, 10));
         ShiftRing hinge = new ShiftRing();
@@ -459,7 +368,7 @@ public final class PromiseTest {
     }
 
     private static void p16() {
-        ShiftRing x = ringAt(100, 300, 1300, 2000, 4000);
+        ShiftRing x = Rings.at(100, 300, 1300, 2000, 4000);
         int[] successors = {1, 2, 3, -1};
         int[] pointers = {1, 2, 3, 4, -1};
         for (int k = 0; k < 4; k++) {
@@ -482,9 +391,9 @@ public final class PromiseTest {
             due(-1, () -> x.link(0, k, true));
         }
         // a hinge exactly at the place times the base, and one that is all round back
-        ShiftRing y = ringAt(500, 2000);
+        ShiftRing y = Rings.at(500, 2000);
         due(1, () -> y.link(0, 0, true));
-        ShiftRing z = ringAt(1030, 3000);
+        ShiftRing z = Rings.at(1030, 3000);
         due(1, () -> z.link(0, 0, true));
         for (int n : NO_NODES) {
             refused(INDEX, () -> x.link(n, 0, true));
@@ -557,13 +466,13 @@ public final class PromiseTest {
     }
 
     private static void p20() {
-        ShiftRing x = four();
+        ShiftRing x = Rings.four();
         due(500, () -> x.start(0, 2000));
         due(2000, () -> x.start(1, 2000));
         due(2548, () -> x.start(2, 2000));
         due(0, () -> x.start(0, 0));
         // a short arc: 22, 23, 30 (base 4) against keys that begin with 23, 22, 33, 00, 10
-        ShiftRing s = ringAt(10, 13, 2000);
+        ShiftRing s = Rings.at(10, 13, 2000);
         due(11, () -> s.start(0, 3000));
         due(10, () -> s.start(0, 2800));
         due(11, () -> s.start(0, 4095));
@@ -581,13 +490,13 @@ public final class PromiseTest {
         x.down(1);
         refused(STATE, () -> x.start(1, 0));
         refused(ARGUMENT, () -> x.start(1, 4096));
-        refused(STATE, () -> cut().start(0, 0));
-        refused(ARGUMENT, () -> cut().start(0, 4096));
-        due(5, () -> ringAt(7).start(0, 5));
+        refused(STATE, () -> Rings.cut().start(0, 0));
+        refused(ARGUMENT, () -> Rings.cut().start(0, 4096));
+        due(5, () -> Rings.at(7).start(0, 5));
     }
 
     private static void p21() {
-        ShiftRing x = two();
+        ShiftRing x = Rings.two();
         due(0, () -> x.nearest(64));
         due(1, () -> x.nearest(2112));
         due(0, () -> x.nearest(0));
@@ -596,7 +505,7 @@ public final class PromiseTest {
             refused(ARGUMENT, () -> x.nearest(p));
         }
         due(-1, () -> new ShiftRing().nearest(0));
-        due(-1, () -> cut().nearest(0));
+        due(-1, () -> Rings.cut().nearest(0));
         // node 0 does not know of node 1, so only node 1 finds itself
         ShiftRing s = new ShiftRing();
         s.join(0);
@@ -606,7 +515,7 @@ public final class PromiseTest {
     }
 
     private static void p22() {
-        ShiftRing x = four();
+        ShiftRing x = Rings.four();
         due(0, () -> x.far(2, 2));
         due(1, () -> x.far(0, 3));
         ShiftRing s = new ShiftRing();
@@ -614,11 +523,8 @@ public final class PromiseTest {
         s.join(2048);
         due(1, () -> s.far(1, 0));
         due(-1, () -> s.far(0, 1));
-        // each node knows one behind it and little more: a long way round
-        ShiftRing f = full();
-        f.degree(1);
-        f.mendAll();
-        due(f.count(5), () -> farthest(f));
+        // each node knows three behind it and little more: a long way round
+        due(bareFull().count(5), () -> farthest());
         s.down(1);
         refused(STATE, () -> s.far(0, 1));
         refused(STATE, () -> s.far(1, 0));
@@ -629,10 +535,18 @@ public final class PromiseTest {
         }
     }
 
-    private static int farthest(ShiftRing x) {
+    private static ShiftRing bareFull() {
+        ShiftRing x = Rings.full();
+        x.degree(1);
+        x.mendAll();
+        return x;
+    }
+
+    private static int farthest() {
         int most = 0;
-        for (int a = 0; a < x.count(0); a++) {
-            for (int b = 0; b < x.count(0); b++) {
+        for (int a = 0; a < 24; a++) {
+            ShiftRing x = bareFull();
+            for (int b = 0; b < 24; b++) {
                 most = Math.max(most, x.far(a, b));
             }
         }
@@ -640,11 +554,11 @@ public final class PromiseTest {
     }
 
     private static void p23() {
-        ShiftRing x = four();
+        ShiftRing x = Rings.four();
         due(3, () -> x.apart(0, 1));
         x.down(2);
         due(2, () -> x.apart(0, 1));
-        due(1, () -> two().apart(0, 1));
+        due(1, () -> Rings.two().apart(0, 1));
         ShiftRing s = new ShiftRing();
         s.join(0);
         s.join(2048);
@@ -662,7 +576,7 @@ public final class PromiseTest {
     }
 
     private static void p24() {
-        ShiftRing x = two();
+        ShiftRing x = Rings.two();
         int[] best = {62, 62, 0, 0, 0, 1, 62, 1};
         int[] plain = {62, 217, 0, 0, 0, 1, 62, 1};
         sampleIs(x, true, best);
@@ -675,24 +589,24 @@ public final class PromiseTest {
         x.turn(2);
         sampleIs(x, true, 62, 0, 0, 62, 0, 1, 62 * 11, 11);
         // degree 1: from node 0 a shift to itself, then a walk
-        ShiftRing d = two();
+        ShiftRing d = Rings.two();
         d.degree(1);
         d.mendAll();
         sampleIs(d, true, 62, 62, 31, 0, 0, 1, 62, 1);
         sampleIs(new ShiftRing(), true, 0, 0, 0, 0, 0, 0, 0, 0);
-        sampleIs(cut(), true, 0, 0, 0, 0, 64, 0, 0, 0);
-        ShiftRing l = losing();
-        due(l.sample(false, 4), () -> wrongOnes(l));
+        sampleIs(Rings.cut(), true, 0, 0, 0, 0, 64, 0, 0, 0);
+        due(Rings.losing().sample(false, 4), () -> wrongOnes());
         for (int w : new int[] {-1, 8, Integer.MIN_VALUE, Integer.MAX_VALUE}) {
             refused(WHAT, () -> x.sample(true, w));
             refused(WHAT, () -> x.sample(false, w));
         }
     }
 
-    private static int wrongOnes(ShiftRing x) {
+    private static int wrongOnes() {
         int not = 0;
-        for (int n = 0; n < x.count(0); n++) {
-            for (int key = 0; key < 4096 && x.node(n, 1) == 1; key += 64) {
+        for (int n : new int[] {0, 2, 3}) {
+            ShiftRing x = Rings.losing();
+            for (int key = 0; key < 4096; key += 64) {
                 x.lookup(n, key, false);
                 not += 1 - x.latest(4);
             }
@@ -708,10 +622,10 @@ public final class PromiseTest {
     }
 
     private static void p25() {
-        ShiftRing x = two();
+        ShiftRing x = Rings.two();
         due(62, () -> x.cost(4, 4));
         due(62, () -> x.cost(2, 1));
-        ShiftRing f = full();
+        ShiftRing f = Rings.full();
         int was = f.sample(true, 0);
         due(was, () -> f.cost(4, 4));
         int other = f.cost(16, 8);
@@ -737,8 +651,8 @@ public final class PromiseTest {
 
     private static void p26() {
         due(201, () -> new ShiftRing().choice(11));
-        due(201, () -> two().choice(11));
-        ShiftRing f = full();
+        due(201, () -> Rings.two().choice(11));
+        ShiftRing f = Rings.full();
         for (int links = 4; links <= 11; links++) {
             int most = links;
             due(cheapest(f, links), () -> f.choice(most));
@@ -765,11 +679,11 @@ public final class PromiseTest {
     }
 
     private static void p27() {
-        ShiftRing x = two();
+        ShiftRing x = Rings.two();
         due(1, () -> x.takes(0, 2112));
         due(0, () -> x.takes(0, 64));
         due(0, () -> x.takes(0, 0));
-        due(-1, () -> cut().takes(0, 0));
+        due(-1, () -> Rings.cut().takes(0, 0));
         due(-1, () -> new ShiftRing().count(99));
         ShiftRing s = new ShiftRing();
         s.join(0);
@@ -789,11 +703,11 @@ public final class PromiseTest {
     }
 
     private static void p28() {
-        ShiftRing x = two();
+        ShiftRing x = Rings.two();
         due(2112, () -> x.worst(0));
         due(64, () -> x.worst(1));
-        due(0, () -> ringAt(7).worst(0));
-        due(-1, () -> cut().worst(0));
+        due(0, () -> Rings.at(7).worst(0));
+        due(-1, () -> Rings.cut().worst(0));
         for (int n : NO_NODES) {
             refused(INDEX, () -> x.worst(n));
         }
@@ -802,12 +716,12 @@ public final class PromiseTest {
     }
 
     private static void p29() {
-        ShiftRing x = two();
+        ShiftRing x = Rings.two();
         due(31, () -> x.traffic(0));
         due(31, () -> x.traffic(1));
-        due(0, () -> ringAt(7).traffic(0));
+        due(0, () -> Rings.at(7).traffic(0));
         // lookups that come to a node again and again count once
-        ShiftRing l = losing();
+        ShiftRing l = Rings.losing();
         due(1, () -> l.traffic(0) <= 3 * 64 && l.traffic(3) <= 3 * 64 ? 1 : 0);
         x.down(1);
         refused(STATE, () -> x.traffic(1));
@@ -818,32 +732,32 @@ public final class PromiseTest {
     }
 
     private static void p30() {
-        ShiftRing x = two();
+        ShiftRing x = Rings.two();
         due(-1, () -> x.detour(2048));
         due(-2, () -> x.detour(64));
         due(0, () -> new ShiftRing().detour(0));
-        due(0, () -> cut().detour(0));
-        due(-4, () -> four().detour(2000));
+        due(0, () -> Rings.cut().detour(0));
+        due(-4, () -> Rings.four().detour(2000));
         for (int p : NO_PLACES) {
             refused(ARGUMENT, () -> x.detour(p));
         }
     }
 
     private static void p31() {
-        ShiftRing x = two();
+        ShiftRing x = Rings.two();
         x.spot(0, 50);
         due(0, () -> x.quickest(64));
         due(1, () -> x.quickest(2112));
         due(0, () -> x.quickest(2048));
         due(-1, () -> new ShiftRing().quickest(0));
-        due(-1, () -> cut().quickest(0));
+        due(-1, () -> Rings.cut().quickest(0));
         for (int p : NO_PLACES) {
             refused(ARGUMENT, () -> x.quickest(p));
         }
     }
 
     private static void p32() {
-        ShiftRing x = two();
+        ShiftRing x = Rings.two();
         due(0, () -> x.better(0));
         x.spot(1, 9);
         due(9, () -> x.better(0));
@@ -853,21 +767,25 @@ public final class PromiseTest {
         x.down(0);
         due(0, () -> x.better(0));
         due(0, () -> x.better(1));
-        ShiftRing f = full();
-        for (int n = 0; n < 24; n++) {
-            f.spot(n, n * 37 % 100);
-        }
         for (int n = 0; n < 24; n += 5) {
             int node = n;
-            due(bestSpot(f, n), () -> f.better(node));
+            due(bestSpot(node), () -> spotted().better(node));
         }
         for (int n : NO_NODES) {
             refused(INDEX, () -> x.better(n));
         }
     }
 
-    private static int bestSpot(ShiftRing x, int node) {
-        int was = x.spot(node, 0);
+    private static ShiftRing spotted() {
+        ShiftRing x = Rings.full();
+        for (int n = 0; n < 24; n++) {
+            x.spot(n, n * 37 % 100);
+        }
+        return x;
+    }
+
+    private static int bestSpot(int node) {
+        ShiftRing x = spotted();
         int found = 0;
         int least = Integer.MAX_VALUE;
         for (int s = 0; s <= 99; s++) {
@@ -878,12 +796,11 @@ public final class PromiseTest {
                 found = s;
             }
         }
-        x.spot(node, was);
         return found;
     }
 
     private static void p33() {
-        ShiftRing x = ringAt(100, 2000);
+        ShiftRing x = Rings.at(100, 2000);
         due(0, () -> x.host(100));
         due(0, () -> x.host(1999));
         due(1, () -> x.host(2000));
@@ -899,14 +816,14 @@ public final class PromiseTest {
     }
 
     private static void p34() {
-        ShiftRing x = two();
+        ShiftRing x = Rings.two();
         due(2, () -> x.ideal(0, 2112));
         due(1, () -> x.ideal(0, 64));
         due(0, () -> x.ideal(0, 0));
         due(1, () -> x.ideal(0, 2048));
         due(0, () -> x.ideal(1, 2048));
-        due(2, () -> four().ideal(0, 2000));
-        due(0, () -> ringAt(7).ideal(0, 9));
+        due(2, () -> Rings.four().ideal(0, 2000));
+        due(0, () -> Rings.at(7).ideal(0, 9));
         for (int p : NO_PLACES) {
             refused(ARGUMENT, () -> x.ideal(0, p));
             refused(INDEX, () -> x.ideal(2, p));
@@ -918,13 +835,13 @@ public final class PromiseTest {
         refused(STATE, () -> x.ideal(1, 0));
         refused(STATE, () -> x.ideal(0, 0));
         refused(ARGUMENT, () -> x.ideal(0, -1));
-        refused(STATE, () -> cut().ideal(0, 0));
+        refused(STATE, () -> Rings.cut().ideal(0, 0));
     }
 
     private static void p35() {
         due(1, () -> new ShiftRing().enough(1));
-        due(1, () -> two().enough(1));
-        ShiftRing f = full();
+        due(1, () -> Rings.two().enough(1));
+        ShiftRing f = Rings.full();
         due(-1, () -> f.enough(1));
         due(1, () -> f.enough(200));
         for (int hops = 1; hops <= 8; hops++) {
@@ -952,7 +869,7 @@ public final class PromiseTest {
     }
 
     private static void p36() {
-        ShiftRing x = four();
+        ShiftRing x = Rings.four();
         due(2, () -> x.copies(3));
         due(3, () -> x.copies(1));
         for (int n : new int[] {0, 4, -1, Integer.MIN_VALUE, Integer.MAX_VALUE}) {
@@ -964,7 +881,7 @@ public final class PromiseTest {
     }
 
     private static void p37() {
-        ShiftRing x = four();
+        ShiftRing x = Rings.four();
         due(2, () -> x.put(0, 2000, 999));
         due(2, () -> x.latest(0) + x.latest(5));
         due(2, () -> x.put(3, 4000, 0));
@@ -991,8 +908,8 @@ public final class PromiseTest {
         due(3, () -> x.put(3, 3500, 1));
         due(13, () -> x.about(3500, 1));
         due(3, () -> x.count(13));
-        due(1, () -> ringAt(7).put(0, 5, 5));
-        ShiftRing c = cut();
+        due(1, () -> Rings.at(7).put(0, 5, 5));
+        ShiftRing c = Rings.cut();
         c.mend(0);
         c.put(0, 9, 9);
         c.up(1);
@@ -1005,12 +922,12 @@ public final class PromiseTest {
         due(0, () -> c.why(0));
         due(1, () -> c.count(11));
         due(1, () -> c.count(13));
-        ShiftRing l = losingBest();
+        ShiftRing l = Rings.losingBest();
         refused(STATE, () -> l.put(1, 2688, 5));
         due(200, () -> l.latest(5));
         due(0, () -> l.count(11));
         due(0, () -> l.count(13));
-        ShiftRing m = four();
+        ShiftRing m = Rings.four();
         for (int k = 0; k < 32; k++) {
             m.put(0, 100 * k, k);
         }
@@ -1025,7 +942,7 @@ public final class PromiseTest {
     }
 
     private static void p38() {
-        ShiftRing x = four();
+        ShiftRing x = Rings.four();
         x.put(0, 2000, 7);
         due(7, () -> x.get(3, 2000));
         due(1, () -> x.latest(4));
@@ -1039,7 +956,7 @@ public final class PromiseTest {
         x.down(2);
         due(9, () -> x.get(0, 2000));
         // holds none itself: the first successor that is up and holds one
-        ShiftRing y = four();
+        ShiftRing y = Rings.four();
         y.copies(1);
         y.put(0, 2000, 5);
         y.join(2040);
@@ -1058,16 +975,16 @@ public final class PromiseTest {
         refused(STATE, () -> x.get(2, 2000));
         refused(ARGUMENT, () -> x.get(2, -1));
         due(6, () -> x.latest(6));
-        ShiftRing c = cut();
+        ShiftRing c = Rings.cut();
         refused(STATE, () -> c.get(0, 5));
         due(0, () -> c.why(0));
-        ShiftRing l = losingBest();
+        ShiftRing l = Rings.losingBest();
         refused(STATE, () -> l.get(1, 2688));
         due(200, () -> l.latest(5));
     }
 
     private static void p39() {
-        ShiftRing x = four();
+        ShiftRing x = Rings.four();
         x.put(0, 2000, 7);
         x.down(2);
         x.put(1, 2000, 9);
@@ -1079,7 +996,7 @@ public final class PromiseTest {
         due(-1, () -> x.held(0, 2000, 0));
         due(0, () -> x.settle(0));
         // an older version goes to a keeper that holds none, and is dropped by one that keeps none
-        ShiftRing y = four();
+        ShiftRing y = Rings.four();
         y.copies(1);
         y.put(0, 100, 1);
         y.join(500);
@@ -1090,7 +1007,7 @@ public final class PromiseTest {
         due(1, () -> y.settle(1));
         due(16, () -> y.about(100, 1));
         // a newer one is not overwritten by an older one
-        ShiftRing z = four();
+        ShiftRing z = Rings.four();
         z.put(0, 100, 1);
         z.down(2);
         z.put(0, 100, 2);
@@ -1105,7 +1022,7 @@ public final class PromiseTest {
     }
 
     private static void p40() {
-        ShiftRing x = four();
+        ShiftRing x = Rings.four();
         x.put(0, 2000, 7);
         x.put(0, 2000, 0);
         due(0, () -> x.held(2, 2000, 0));
@@ -1130,7 +1047,7 @@ public final class PromiseTest {
     }
 
     private static void p41() {
-        ShiftRing x = four();
+        ShiftRing x = Rings.four();
         due(12, () -> x.about(2000, 0));
         due(0, () -> x.about(2000, 1));
         due(0, () -> x.about(2000, 2));
@@ -1162,7 +1079,7 @@ public final class PromiseTest {
     }
 
     private static void p42() {
-        ShiftRing x = four();
+        ShiftRing x = Rings.four();
         int[] counts = {4, 4, 4, 4, 6, 1, 0, 0, 0, 3, 0, 0, 0, 0, 0, 3584};
         for (int w = 0; w < counts.length; w++) {
             int what = w;
@@ -1185,7 +1102,7 @@ public final class PromiseTest {
         due(8, () -> x.count(2));
         due(2, () -> x.count(3));
         due(4, () -> x.count(4));
-        ShiftRing t = two();
+        ShiftRing t = Rings.two();
         due(0, () -> t.count(16));
         t.down(0);
         due(1, () -> t.count(16));
@@ -1194,13 +1111,13 @@ public final class PromiseTest {
         // all round from 2048: half of it is 0, where a node that is down stands
         due(-1, () -> t.count(15));
         // 4093 keys from 14 to 10: the first 2046 of them end at 2059
-        due(2059, () -> ringAt(10, 11, 13).count(15));
+        due(2059, () -> Rings.at(10, 11, 13).count(15));
         ShiftRing s = new ShiftRing();
         s.join(0);
         s.join(2048);
         due(-1, () -> s.count(5));
         due(1, () -> s.count(10));
-        ShiftRing f = full();
+        ShiftRing f = Rings.full();
         due(f.node(f.count(8), 10), () -> mostHarm(f));
         due(f.traffic(f.count(16)), () -> mostTraffic(f));
         for (int w : new int[] {-1, 17, Integer.MIN_VALUE, Integer.MAX_VALUE}) {
@@ -1234,13 +1151,9 @@ public final class PromiseTest {
         PromiseTest::p37, PromiseTest::p38, PromiseTest::p39, PromiseTest::p40, PromiseTest::p41, PromiseTest::p42};
 
     public static void main(String[] args) {
-        for (Runnable test : PROMISES) {
-            promise++;
-            test.run();
+        for (int k = 0; k < PROMISES.length; k++) {
+            Check.sentence("promise " + (k + 1), PROMISES[k]);
         }
-        System.out.println(promise + " promises, " + checks + " checks, " + wrong + " not as due");
-        if (wrong != 0) {
-            System.exit(1);
-        }
+        Check.end();
     }
 }
