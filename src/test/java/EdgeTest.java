@@ -307,6 +307,14 @@ public final class EdgeTest {
         x.down(1);
         due(0, () -> x.better(0));
         due(0, () -> x.better(1));
+        // most others stand at 0, one far off
+        ShiftRing f = Rings.full();
+        f.spot(5, 50);
+        Check.dues(f::better, 0, 0, 0, 0, 0, 0, 0);
+        for (int n = 0; n < 24; n++) {
+            f.spot(n, n == 5 ? 50 : 99);
+        }
+        Check.dues(f::better, 99, 99, 99, 99, 99, 99, 99);
     }
 
     /** What sample() says of lookups, asked of each of them. */
@@ -328,6 +336,19 @@ public final class EdgeTest {
             }
             Check.dues(what -> losingInTime().sample(best, what), all);
         }
+    }
+
+    /** What the sample ahead of it came to is forgotten. */
+    private static void sampleAnew() {
+        ShiftRing x = Rings.two();
+        x.spot(1, 99);
+        Check.dues(what -> x.sample(true, what), 62, 62, 0, 0, 0, 1, 6200, 100);
+        x.spot(1, 0);
+        Check.dues(what -> x.sample(true, what), 62, 62, 0, 0, 0, 1, 62, 1);
+        x.down(1);
+        Check.dues(what -> x.sample(true, what), 0, 0, 0, 0, 64, 0, 0, 0);
+        x.mend(0);
+        Check.dues(what -> x.sample(true, what), 0, 0, 0, 0, 0, 0, 0, 0);
     }
 
     /** Node 0 is down. */
@@ -509,6 +530,7 @@ public final class EdgeTest {
         Check.sentence("31: of several the least; NONE", EdgeTest::quickestOfSeveral);
         Check.sentence("32: would be the least, of several the least", EdgeTest::betterOfSeveral);
         Check.sentence("24: all together, the most of one", EdgeTest::sampleTogether);
+        Check.sentence("24: of SAMPLE as it is now", EdgeTest::sampleAnew);
         Check.sentence("37: the LOOKUP is CUT or LOST (it is the latest then)", EdgeTest::putThatIsCutOrLost);
         Check.sentence("38: the LOOKUP is CUT or LOST (it is the latest then)", EdgeTest::getThatIsCutOrLost);
         Check.sentence("37, 38: no LOOKUP is made", EdgeTest::noLookupIsMade);

@@ -25,6 +25,17 @@ final class Rings {
         return x;
     }
 
+    /** Base and degree are told first, and nobody is mended: tables are old. */
+    static ShiftRing joinedBy(int base, int degree, int... places) {
+        ShiftRing x = new ShiftRing();
+        x.turn(base);
+        x.degree(degree);
+        for (int place : places) {
+            x.join(place);
+        }
+        return x;
+    }
+
     /** So many nodes in a row, each one place behind the other. */
     static int[] inARow(int first, int many) {
         int[] places = new int[many];

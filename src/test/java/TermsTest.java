@@ -159,6 +159,9 @@ public final class TermsTest {
         successorsAre(Rings.five(), 0, 1, 2, 3);
         successorsAre(Rings.five(), 4, 0, 1, 2);
         successorsAre(Rings.five(), 3, 4, 0, 1);
+        successorsAre(Rings.at(7, 8, 9, 10, 11), 0, 1, 2, 3);
+        successorsAre(Rings.at(4094, 4095, 0, 1), 0, 1, 2, 3);
+        successorsAre(Rings.at(4094, 4095, 0, 1), 1, 2, 3, 0);
         ShiftRing x = Rings.five();
         x.down(2);
         x.mend(1);
@@ -212,6 +215,9 @@ public final class TermsTest {
         x.mend(0);
         pointersAre(x, 0, 1, 3, 4, 0);
         pointersAre(Rings.laidBy(4, 8, 7), 0, 0);
+        pointersAre(Rings.at(10, 40, 41, 42), 0, 1, 2, 3, 0);
+        pointersAre(Rings.at(1023, 4095, 0, 1), 0, 0, 1, 2, 3);
+        pointersAre(Rings.at(1024, 4095, 0, 1), 0, 2, 3, 0, 1);
     }
 
     private static void laidWhenItComes() {
@@ -350,6 +356,11 @@ public final class TermsTest {
             x.lookup(3, 2000, false);
             stepIs(x, 0, 3, 3072, pair[1]);
             due(0, () -> x.latest(6));
+            // though the key is its place, or in its arc, and a start of all letters would be there
+            for (int key : new int[] {3072, 3073, 4095, 0}) {
+                x.lookup(3, key, false);
+                due(0, () -> x.latest(6));
+            }
         }
     }
 
@@ -760,6 +771,14 @@ public final class TermsTest {
         due(1, () -> Rings.two().apart(0, 1));
         due(2, () -> Rings.at(100, 200, 300).apart(0, 2));
         due(3, () -> Rings.four().apart(3, 1));
+        // links of node 0: 3, 1, 4; 3 and 4 have 1
+        due(3, () -> Rings.laidBy(8, 4, 1200, 2400, 3500, 2100, 2500).apart(0, 1));
+        // 0 to 3; 0, 4, 3; 0, 1, 2, 3
+        due(3, () -> Rings.laidBy(2, 3, 100, 2000, 2500, 1700, 500).apart(0, 3));
+        // 1 to 2; 1, 5, 2; 1, 0, 2; from 3, the last link of 1, one comes to 5 and 0 alone
+        due(3, () -> Rings.laidBy(4, 3, 1000, 4000, 1200, 3000, 2200, 200).apart(1, 2));
+        // 2, 3, 5; 2, 4, 0, 5; 2, 1, 6, 5: 2, 1, 0, 5 would leave nothing for 4
+        due(3, () -> Rings.laidBy(4, 1, 2000, 1300, 3200, 1900, 900, 2200, 2100).apart(2, 5));
         Check.refused(ARGUMENT, Rings::four, y -> y.apart(3, 3));
     }
 
@@ -801,17 +820,24 @@ public final class TermsTest {
         due(201, () -> new ShiftRing().choice(11));
         due(201, () -> Rings.two().choice(4));
         due(201, () -> Rings.two().choice(11));
-        for (int links = 4; links <= 11; links++) {
-            int most = links;
-            due(cheapest(most - 3), () -> Rings.full().choice(most));
+        Check.Maker[] makers = {Rings::full, Rings::used, () -> Rings.at(2400, 700, 3200),
+            () -> Rings.at(4000, 1700, 2900), () -> Rings.at(3100, 1100, 3700, 500, 2000, 1700)};
+        for (Check.Maker maker : makers) {
+            for (int links = 4; links <= 11; links++) {
+                int most = links;
+                due(cheapest(maker, most - 3), () -> maker.make().choice(most));
+            }
         }
-        due(1, () -> Rings.full().choice(4) % 100);
+        due(801, () -> Rings.at(2400, 700, 3200).choice(4));
+        due(1602, () -> Rings.at(2400, 700, 3200).choice(5));
+        due(1601, () -> Rings.at(4000, 1700, 2900).choice(4));
+        due(802, () -> Rings.at(4000, 1700, 2900).choice(5));
         Check.refused(ARGUMENT, Rings::four, x -> x.choice(3));
         Check.refused(ARGUMENT, Rings::four, x -> x.choice(12));
     }
 
-    private static int cheapest(int mostDegree) {
-        ShiftRing x = Rings.full();
+    private static int cheapest(Check.Maker maker, int mostDegree) {
+        ShiftRing x = maker.make();
         int found = 0;
         int least = Integer.MAX_VALUE;
         for (int degree = 1; degree <= mostDegree; degree++) {
@@ -838,7 +864,25 @@ public final class TermsTest {
         due(-1, () -> x.node(0, 10));
         due(0, () -> x.node(1, 10));
         due(0, () -> Rings.four().node(2, 10));
+        for (Check.Maker maker : OLD_AND_NEW) {
+            int nodes = maker.make().count(0);
+            for (int n = 0; n < nodes; n++) {
+                int node = n;
+                ShiftRing without = maker.make();
+                without.down(node);
+                due(without.sample(true, 4), () -> maker.make().node(node, 10));
+            }
+        }
     }
+
+    /** Rings of several bases and degrees, mended or not, all of whose nodes are up. */
+    private static final Check.Maker[] OLD_AND_NEW = {
+        () -> Rings.laidBy(2, 5, 4000, 3900, 700, 1000),
+        () -> Rings.laidBy(2, 5, 100, 2200, 3600),
+        () -> Rings.laidBy(4, 2, 3700, 100, 2000),
+        () -> Rings.joinedBy(16, 6, 3400, 300, 800, 3900, 900),
+        () -> Rings.joinedBy(8, 4, 3300, 1700, 500, 3500),
+        () -> Rings.joinedBy(16, 1, 2000, 2300, 2400, 3200, 2100, 600)};
 
     private static void load() {
         due(4096, () -> Rings.at(7).node(0, 9));
@@ -888,6 +932,25 @@ public final class TermsTest {
         x.down(2);
         x.down(3);
         due(-1, () -> x.count(10));
+        for (Check.Maker maker : OLD_AND_NEW) {
+            due(bestMended(maker), () -> maker.make().count(10));
+        }
+    }
+
+    private static int bestMended(Check.Maker maker) {
+        int nodes = maker.make().count(0);
+        int found = -1;
+        int least = Integer.MAX_VALUE;
+        for (int n = 0; n < nodes; n++) {
+            ShiftRing x = maker.make();
+            x.mend(n);
+            int hops = x.sample(true, 0);
+            if (hops < least) {
+                least = hops;
+                found = n;
+            }
+        }
+        return found;
     }
 
     private static void takes() {
@@ -963,6 +1026,7 @@ public final class TermsTest {
         due(0, () -> Rings.at(7).count(14));
         due(0, () -> Rings.two().count(14));
         due(4094, () -> Rings.at(7, 8).count(14));
+        due(4094, () -> Rings.at(8, 7).count(14));
         ShiftRing x = Rings.at(7, 8);
         x.down(1);
         due(0, () -> x.count(14));
@@ -1171,6 +1235,8 @@ public final class TermsTest {
         due(0b1100, () -> x.about(1025, 0));
         due(0b1001, () -> x.about(3072, 0));
         due(0b0011, () -> x.about(4095, 0));
+        due(0b011, () -> Rings.at(7, 8, 9).about(7, 0));
+        due(0b101, () -> Rings.at(4095, 10, 0).about(4095, 0));
         x.copies(3);
         due(0b1110, () -> x.about(5, 0));
         x.down(2);
@@ -1210,7 +1276,17 @@ public final class TermsTest {
         due(1, () -> y.settle(2));
         due(2, () -> y.held(1, 5, 0));
         due(0, () -> y.about(5, 2));
-        Check.refused(STATE, Rings::used, z -> z.settle(4));
+        // node 0 comes back and is the only keeper
+        ShiftRing z = Rings.four();
+        z.copies(1);
+        z.down(0);
+        z.put(3, 4000, 6);
+        z.up(0);
+        due(0b0010, () -> z.about(4000, 1));
+        due(2, () -> z.settle(1));
+        due(0b0001, () -> z.about(4000, 1));
+        due(6, () -> z.held(0, 4000, 0));
+        Check.refused(STATE, Rings::used, u -> u.settle(4));
     }
 
     private static void settleKeyByKey() {
