@@ -468,6 +468,8 @@ public final class EdgeTest {
         }
         // with 1 down nothing is wrong, with 0 down all
         due(0, () -> Rings.strangers().count(8));
+        // 54, 71, 75, 15 lookups come to them; from plain starts most would come to 0
+        due(2, () -> Rings.laidBy(16, 3, 2700, 3900, 1500, 1200).count(16));
     }
 
     private static void mostLinksOfAnUpNode() {

@@ -935,6 +935,8 @@ public final class TermsTest {
         for (Check.Maker maker : OLD_AND_NEW) {
             due(bestMended(maker), () -> maker.make().count(10));
         }
+        // by the mend of each 291, 201, 254, 201 hops
+        due(1, () -> Rings.joinedBy(8, 1, 2300, 300, 3600, 200).count(10));
     }
 
     private static int bestMended(Check.Maker maker) {
@@ -979,6 +981,8 @@ public final class TermsTest {
         due(31, () -> Rings.two().traffic(0));
         due(31, () -> Rings.two().traffic(1));
         due(0, () -> Rings.cut().traffic(0));
+        // from plain starts 154, 100, 107, 15 would come
+        Check.dues(n -> Rings.laidBy(16, 3, 2700, 3900, 1500, 1200).traffic(n), 54, 71, 75, 15);
         // steps to itself are no hops; one that comes again and again counts once
         ShiftRing x = Rings.losingBest();
         int[] came = new int[5];
